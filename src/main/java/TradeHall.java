@@ -11,6 +11,8 @@ public final class TradeHall {
     private static final int MAX_TRADERS = 20;
     private static final int MAX_UNITS = 4;
     private static final int SLOTS = MAX_TRADERS * MAX_UNITS;
+    // behind the slots of all traders
+    private static final int NO_SLOT = SLOTS;
     private static final int GRADES = 4;
     private static final int ALL_GRADES = (1 << GRADES) - 1;
     private static final int MAX_VALUE = 9999;
@@ -170,8 +172,8 @@ public final class TradeHall {
         }
         history.remember(hall);
         for (int trader = 0; trader < hall.size; trader++) {
-            int units = book.doneOf(trader);
-            hall.trade(trader, units, book.moneyOf(trader));
+            boolean sells = hall.isSeller(trader);
+            hall.trade(trader, book.doneOf(sells, trader), book.moneyOf(sells, trader));
         }
         hall.noteClose(book.done, book.takings());
         return book.done;
@@ -218,7 +220,7 @@ public final class TradeHall {
                 return hall.purseOf(trader);
             case 4:
                 settleGrade(hall.gradeOf(trader));
-                return book.doneOf(trader);
+                return book.doneOf(hall.isSeller(trader), trader);
             case 5:
                 return hall.tradedOf(trader);
             default:
@@ -283,7 +285,8 @@ public final class TradeHall {
             return NOTHING;
         }
         settleGrade(hall.gradeOf(trader));
-        return what == 0 ? book.moneyOf(trader) : book.gainOf(hall, trader);
+        boolean sells = hall.isSeller(trader);
+        return what == 0 ? book.moneyOf(sells, trader) : book.gainOf(hall, trader);
     }
 
     // ---- lies ----
@@ -292,7 +295,7 @@ public final class TradeHall {
         if (!hall.has(trader) || d < -MAX_LIE || d > MAX_LIE) {
             return NOTHING;
         }
-        setAside(trader);
+        setAside(hall.gradeOf(trader), bit(trader));
         return gainByLie(trader, d);
     }
 
@@ -300,7 +303,7 @@ public final class TradeHall {
         if (!hall.has(trader) || !isZeroOrOne(what)) {
             return NOTHING;
         }
-        setAside(trader);
+        setAside(hall.gradeOf(trader), bit(trader));
         int most = gainByLie(trader, 0);
         int by = 0;
         for (int step = 1; step <= 2 * MAX_TEMPTING; step++) {
@@ -508,12 +511,13 @@ public final class TradeHall {
         if (!hall.has(trader)) {
             return NOTHING;
         }
-        setAside(trader);
-        int sign = hall.isSeller(trader) ? -1 : 1;
+        setAside(hall.gradeOf(trader), bit(trader));
+        boolean sells = hall.isSeller(trader);
         for (int step = -MAX_LIE; step <= MAX_LIE; step++) {
-            settleLie(trader, sign * step);
-            if (book.doneOf(trader) > 0) {
-                return sign * step;
+            int d = sells ? -step : step;
+            settleLie(trader, d);
+            if (book.doneOf(sells, trader) > 0) {
+                return d;
             }
         }
         return NO_BAR;
@@ -583,7 +587,7 @@ public final class TradeHall {
         if (!areTwoOfOneGrade(trader, other) || what < 0 || what > 2) {
             return NOTHING;
         }
-        others.take(hall, bit(hall.gradeOf(trader)), bit(trader) | bit(other));
+        setAside(hall.gradeOf(trader), bit(trader) | bit(other));
         int now = gainByPact(trader, other, 0);
         int most = now;
         int by = 0;
@@ -606,9 +610,11 @@ public final class TradeHall {
             return NOTHING;
         }
         int best = hall.gradeOf(trader);
-        int most = gainInGrade(trader, best);
+        setAside(best, bit(trader));
+        int most = gainByLie(trader, 0);
         for (int grade = 0; grade < GRADES; grade++) {
-            int gain = gainInGrade(trader, grade);
+            setAside(grade, bit(trader));
+            int gain = gainByLie(trader, 0);
             if (gain > most) {
                 most = gain;
                 best = grade;
@@ -745,9 +751,9 @@ public final class TradeHall {
         return bits;
     }
 
-    /** The others of its grade stay sorted, so that each lie has few units to put in. */
-    private void setAside(int trader) {
-        others.take(hall, bit(hall.gradeOf(trader)), bit(trader));
+    /** The others of the grade stay sorted, so that each lie has few units to put in. */
+    private void setAside(int grade, int liarBits) {
+        others.take(hall, bit(grade), liarBits);
     }
 
     private void settleLie(int trader, int d) {
@@ -769,14 +775,14 @@ public final class TradeHall {
         return book.gainOf(hall, trader) + book.gainOf(hall, other);
     }
 
-    private int gainInGrade(int trader, int grade) {
-        others.take(hall, bit(grade), bit(trader));
-        return gainByLie(trader, 0);
-    }
-
     private void rankGrade(int grade) {
         settleGrade(grade);
-        ranking.rank(hall, book, grade);
+        ranking.size = 0;
+        for (int trader = 0; trader < hall.size; trader++) {
+            if (hall.gradeOf(trader) == grade) {
+                ranking.place(trader, book.gainOf(hall, trader));
+            }
+        }
     }
 
     private void weighFees() {
@@ -880,7 +886,8 @@ public final class TradeHall {
         }
 
         boolean hasUnit(int trader, int unit) {
-            return has(trader) && unit >= 0 && unit < units[trader] && unit < MAX_UNITS;
+            boolean both = trader >= 0 && trader < size && trader < MAX_TRADERS && unit >= 0;
+            return both && unit < units[trader] && unit < MAX_UNITS;
         }
 
         boolean isSeller(int trader) {
@@ -923,15 +930,15 @@ public final class TradeHall {
 
         /** Whether a value of this unit goes on as told with those beside it. */
         boolean fits(int trader, int unit, int value) {
-            boolean afterAhead = !hasUnit(trader, unit - 1)
-                    || inOrder(trader, said(trader, unit - 1), value);
-            boolean aheadOfNext = !hasUnit(trader, unit + 1)
-                    || inOrder(trader, value, said(trader, unit + 1));
-            return afterAhead && aheadOfNext;
+            boolean rising = isSeller(trader);
+            if (hasUnit(trader, unit - 1) && !inOrder(rising, said(trader, unit - 1), value)) {
+                return false;
+            }
+            return !hasUnit(trader, unit + 1) || inOrder(rising, value, said(trader, unit + 1));
         }
 
-        private boolean inOrder(int trader, int ahead, int behind) {
-            return isSeller(trader) ? behind >= ahead : behind <= ahead;
+        private static boolean inOrder(boolean rising, int ahead, int behind) {
+            return rising ? behind >= ahead : behind <= ahead;
         }
 
         int enter(boolean selling, int grade) {
@@ -1165,26 +1172,18 @@ public final class TradeHall {
             int trader = told.enter(sells, grade);
             skipBlanks();
             for (int unit = 0; unit <= MAX_UNITS && isDigit(byteAt(place)); unit++) {
-                readUnit(trader, unit);
+                int from = place;
+                int value = readNumber(MAX_VALUE);
+                if (fault == 0 && !told.fits(trader, unit, value)) {
+                    note(from, NOT_AS_TOLD);
+                } else if (fault == 0 && unit >= MAX_UNITS) {
+                    note(from, TOO_MANY);
+                }
                 if (fault != 0) {
                     return;
                 }
-                skipBlanks();
-            }
-        }
-
-        private void readUnit(int trader, int unit) {
-            int from = place;
-            int value = readNumber(MAX_VALUE);
-            if (fault != 0) {
-                return;
-            }
-            if (!told.fits(trader, unit, value)) {
-                note(from, NOT_AS_TOLD);
-            } else if (unit >= MAX_UNITS) {
-                note(from, TOO_MANY);
-            } else {
                 told.append(trader, value);
+                skipBlanks();
             }
         }
 
@@ -1397,31 +1396,27 @@ public final class TradeHall {
             return count + 1;
         }
 
-        private int keyAt(boolean ofAsks, int k) {
-            if (k < 0 || k >= SLOTS || k >= (ofAsks ? askCount : bidCount)) {
-                return NONE;
-            }
-            return ofAsks ? asks[k] : bids[k];
-        }
-
         int traderAt(boolean ofAsks, int k) {
-            int key = keyAt(ofAsks, k);
-            return key < 0 ? NONE : key % SLOTS / MAX_UNITS;
+            return slotAt(ofAsks, k) / MAX_UNITS;
         }
 
         int unitAt(boolean ofAsks, int k) {
-            int key = keyAt(ofAsks, k);
-            return key < 0 ? NONE : key % SLOTS % MAX_UNITS;
+            return slotAt(ofAsks, k) % MAX_UNITS;
+        }
+
+        private int slotAt(boolean ofAsks, int k) {
+            if (k < 0 || k >= SLOTS || k >= (ofAsks ? askCount : bidCount)) {
+                return NO_SLOT;
+            }
+            return (ofAsks ? asks[k] : bids[k]) % SLOTS;
         }
 
         int bid(int k) {
-            int key = keyAt(false, k);
-            return key < 0 ? NONE : MAX_VALUE - key / SLOTS;
+            return k >= 0 && k < bidCount && k < SLOTS ? MAX_VALUE - bids[k] / SLOTS : NONE;
         }
 
         int ask(int k) {
-            int key = keyAt(true, k);
-            return key < 0 ? NONE : key / SLOTS + fee;
+            return k >= 0 && k < askCount && k < SLOTS ? asks[k] / SLOTS + fee : NONE;
         }
 
         private int amount(boolean ofAsks, int k) {
@@ -1442,43 +1437,36 @@ public final class TradeHall {
             fee = pence;
             law = rule;
             trades = 0;
+            worth = 0;
             while (trades < bidCount && trades < askCount && bid(trades) >= ask(trades)) {
+                worth += bid(trades) - ask(trades);
                 trades++;
             }
-            worth = worthOfFirst(trades);
             done = trades;
-            if (trades == 0) {
+            if (trades == 0 || law == APART) {
                 return;
             }
-            if (law == CUT) {
-                settleCut();
-            } else if (law == MIDDLE) {
-                settleAllAt((lastBid() + lastAsk()) / 2);
-            } else if (law == LESS) {
-                settleLess();
+            int price = priceForAll();
+            if (price == NONE) {
+                done = trades - 1;
+                buyerPays = lastBid();
+                sellerHas = lastAsk() - fee;
+            } else {
+                buyerPays = price;
+                sellerHas = price - fee;
             }
         }
 
-        private void settleCut() {
-            if (trades < bidCount && trades < askCount) {
-                int price = (bid(trades) + ask(trades)) / 2;
-                if (price <= lastBid() && price >= lastAsk()) {
-                    settleAllAt(price);
-                    return;
-                }
+        /** The price at which the law does all trades; NONE if it does one less. */
+        private int priceForAll() {
+            if (law == MIDDLE) {
+                return (lastBid() + lastAsk()) / 2;
             }
-            settleLess();
-        }
-
-        private void settleAllAt(int price) {
-            buyerPays = price;
-            sellerHas = price - fee;
-        }
-
-        private void settleLess() {
-            done = trades - 1;
-            buyerPays = lastBid();
-            sellerHas = lastAsk() - fee;
+            if (law != CUT || trades >= bidCount || trades >= askCount) {
+                return NONE;
+            }
+            int price = (bid(trades) + ask(trades)) / 2;
+            return price <= lastBid() && price >= lastAsk() ? price : NONE;
         }
 
         boolean hasOnePrice() {
@@ -1499,35 +1487,29 @@ public final class TradeHall {
 
         int worthWithout(int trader) {
             int sum = 0;
-            int b = firstOfOthers(false, 0, trader);
-            int a = firstOfOthers(true, 0, trader);
-            while (b < bidCount && a < askCount && bid(b) >= ask(a)) {
+            int a = 0;
+            for (int b = 0; b < bidCount; b++) {
+                if (traderAt(false, b) == trader) {
+                    continue;
+                }
+                while (a < askCount && traderAt(true, a) == trader) {
+                    a++;
+                }
+                if (a >= askCount || bid(b) < ask(a)) {
+                    break;
+                }
                 sum += bid(b) - ask(a);
-                b = firstOfOthers(false, b + 1, trader);
-                a = firstOfOthers(true, a + 1, trader);
+                a++;
             }
             return sum;
         }
 
-        private int firstOfOthers(boolean ofAsks, int from, int trader) {
-            int count = ofAsks ? askCount : bidCount;
-            int k = from;
-            while (k < count && traderAt(ofAsks, k) == trader) {
-                k++;
-            }
-            return k;
-        }
-
         // ---- what is done ----
 
-        int doneOf(int trader) {
-            return doneIn(false, trader) + doneIn(true, trader);
-        }
-
-        private int doneIn(boolean ofAsks, int trader) {
+        int doneOf(boolean sells, int trader) {
             int units = 0;
             for (int k = 0; k < done; k++) {
-                if (traderAt(ofAsks, k) == trader) {
+                if (traderAt(sells, k) == trader) {
                     units++;
                 }
             }
@@ -1535,30 +1517,17 @@ public final class TradeHall {
         }
 
         /** What a buyer pays, a seller has. */
-        int moneyOf(int trader) {
-            return paidBy(trader) + hadBy(trader);
-        }
-
-        private int paidBy(int trader) {
-            int units = doneIn(false, trader);
+        int moneyOf(boolean sells, int trader) {
+            int units = doneOf(sells, trader);
             if (units == 0) {
                 return 0;
             }
             if (law != APART) {
-                return units * buyerPays;
+                return units * (sells ? sellerHas : buyerPays);
             }
-            return worthWithout(trader) - (worth - amountsDone(false, trader));
-        }
-
-        private int hadBy(int trader) {
-            int units = doneIn(true, trader);
-            if (units == 0) {
-                return 0;
-            }
-            if (law != APART) {
-                return units * sellerHas;
-            }
-            return worth + amountsDone(true, trader) - worthWithout(trader) - units * fee;
+            int said = amountsDone(sells, trader);
+            int without = worthWithout(trader);
+            return sells ? worth + said - without - units * fee : without - (worth - said);
         }
 
         private int amountsDone(boolean ofAsks, int trader) {
@@ -1577,16 +1546,17 @@ public final class TradeHall {
             }
             int sum = 0;
             for (int trader = 0; trader < MAX_TRADERS; trader++) {
-                sum += paidBy(trader) - hadBy(trader);
+                sum += moneyOf(false, trader) - moneyOf(true, trader);
             }
             return sum;
         }
 
         /** By what it says in the hall, whatever it says in this book. */
         int gainOf(Hall hall, int trader) {
-            int said = hall.saidOfFirst(trader, doneOf(trader));
-            int money = moneyOf(trader);
-            return hall.isSeller(trader) ? money - said : said - money;
+            boolean sells = hall.isSeller(trader);
+            int said = hall.saidOfFirst(trader, doneOf(sells, trader));
+            int money = moneyOf(sells, trader);
+            return sells ? money - said : said - money;
         }
 
         // ---- beside what is done ----
@@ -1662,16 +1632,7 @@ public final class TradeHall {
         private final int[] gains = new int[MAX_TRADERS];
         private int size;
 
-        void rank(Hall hall, Book book, int grade) {
-            size = 0;
-            for (int trader = 0; trader < hall.size; trader++) {
-                if (hall.gradeOf(trader) == grade) {
-                    place(trader, book.gainOf(hall, trader));
-                }
-            }
-        }
-
-        private void place(int trader, int gain) {
+        void place(int trader, int gain) {
             if (size < 0 || size >= MAX_TRADERS) {
                 return;
             }
