@@ -14,7 +14,6 @@ public final class TradeHall {
     // behind the slots of all traders
     private static final int NO_SLOT = SLOTS;
     private static final int GRADES = 4;
-    private static final int ALL_GRADES = (1 << GRADES) - 1;
     private static final int MAX_VALUE = 9999;
     private static final int MAX_FEE = 500;
     private static final int MAX_PRICE = MAX_VALUE + MAX_FEE;

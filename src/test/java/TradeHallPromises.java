@@ -55,6 +55,7 @@ public final class TradeHallPromises {
         deal();
         lie();
         tempted();
+        temptedNearZero();
         missed();
         open();
         ties();
@@ -244,6 +245,13 @@ public final class TradeHallPromises {
         dueFault("Buyer 0", 0, 1);
         dueFault("buyers 0", 0, 1);
         dueFault("buye 0", 0, 1);
+        dueFault("xuyer 0", 0, 1);
+        dueFault("buyerz 0", 0, 1);
+        dueFault("buyera 0", 0, 1);
+        dueFault("buyer{0", 5, 1);
+        dueFault("buyer`0", 5, 1);
+        dueFault("buyer/0", 5, 1);
+        dueFault("buyer:0", 5, 1);
         dueFault("buyer", 5, 1);
         dueFault("buyer  ", 7, 1);
         dueFault("buyer x", 6, 1);
@@ -657,6 +665,7 @@ public final class TradeHallPromises {
         dueMarket(told("buyer 0 10 1;seller 0 3 5;fee 1"), 1, 6, 0, -2, -2, 0, 6, 10, 4);
         // no next ASK, no next BID
         dueMarket(told("buyer 0 10 1;seller 0 3"), 1, 7, 0, -2, -2, 0, 7, 10, 3);
+        dueMarket(told("buyer 0 10 9;seller 0 3"), 1, 7, 0, -2, -2, 0, 7, 10, 3);
         dueMarket(told("buyer 0 10;seller 0 3 11"), 1, 7, 0, -2, -2, 0, 7, 10, 3);
     }
 
@@ -753,6 +762,20 @@ public final class TradeHallPromises {
         due("tempted(0, -1)", z.tempted(0, -1), MIN);
     }
 
+    private static void dueTempted(String text, int trader, int gain, int by) {
+        TradeHall x = told(text);
+        due("tempted(" + trader + ", 0) of " + text, x.tempted(trader, 0), gain);
+        due("tempted(" + trader + ", 1) of " + text, x.tempted(trader, 1), by);
+    }
+
+    private static void temptedNearZero() {
+        promise = 20;
+        dueTempted("buyer 0 6;seller 0 4;law middle", 0, 2, -1);
+        dueTempted("buyer 0 5;seller 0 4;law middle", 1, 1, 1);
+        // by -1 one at 7 for 9, by 1 two at 8 for 9: like gains, so that below 0
+        dueTempted("seller 0 4 7;buyer 0 9 9;buyer 0 6 4;buyer 0 10 7;law middle", 1, 2, -1);
+    }
+
     private static void missed() {
         promise = 21;
         TradeHall x = told(FAIR + ";buyer 1 9");
@@ -791,6 +814,15 @@ public final class TradeHallPromises {
         due("open(0, 1)", y.open(0, 1), 6);
         due("open(0, 2)", y.open(0, 2), 1);
         due("open(0, 3)", y.open(0, 3), 4);
+        TradeHall allSold = told("buyer 0 9 8;seller 0 3;law middle");
+        for (int what = 0; what < 4; what++) {
+            due("open without asks " + what, allSold.open(0, what), none[what]);
+        }
+        TradeHall z = told("buyer 0 9;seller 0 8");
+        int[] one = {1, 1, 0, 1};
+        for (int what = 0; what < 4; what++) {
+            due("open of the dropped one " + what, z.open(0, what), one[what]);
+        }
     }
 
     private static void ties() {
@@ -803,6 +835,10 @@ public final class TradeHallPromises {
         due("ties(-1)", x.ties(-1), -1);
         // the 9 is taken for certain, of the four 5 two: C(4, 2)
         due("ties", told("buyer 0 9 5 5;buyer 0 5 5 1;seller 0 2 3 3").ties(0), 6);
+        due("ties of asks", told("buyer 0 5;seller 0 3 3").ties(0), 2);
+        due("ties of bids", told("buyer 0 5 5;seller 0 3").ties(0), 2);
+        // of TRADES, whatever is DONE of them
+        due("ties of the dropped ones", told("buyer 0 9 9;seller 0 2 3 3").ties(0), 2);
         // like ones beyond the LAST are not counted
         due("ties", told("buyer 0 9 4 4;seller 0 2 8 8").ties(0), 1);
         StringBuilder many = new StringBuilder("buyer 0 5 5 5 5");
@@ -854,6 +890,8 @@ public final class TradeHallPromises {
         due("feeing(0, 7, 1)", x.feeing(0, 7, 1), 7);
         due("feeing(1, 500, 0)", x.feeing(1, 500, 0), 0);
         due("fee", x.count(2), 7);
+        due("feeing of TRADES", told(FAIR).feeing(0, 0, 0), 3);
+        due("feeing of TRADES", told(FAIR).feeing(0, 6, 0), 2);
         due("feeing(0, 501, 0)", x.feeing(0, 501, 0), MIN);
         due("feeing(0, -1, 0)", x.feeing(0, -1, 0), MIN);
         due("feeing(4, 0, 0)", x.feeing(4, 0, 0), MIN);
@@ -874,6 +912,16 @@ public final class TradeHallPromises {
         x.tell();
         due("bestFee(0)", x.bestFee(0), 30);
         due("bestFee(1)", x.bestFee(1), 60);
+        put(x, "buyer 0 5;seller 0 4;law middle");
+        x.tell();
+        due("bestFee(0)", x.bestFee(0), 1);
+        // by LESS 8 less 2, as long as both trade
+        put(x, "buyer 0 9 8;seller 0 1 2;law less");
+        x.tell();
+        for (int i = 0; i < 3; i++) {
+            due("bestFee(0)", x.bestFee(0), 0);
+            due("bestFee(1)", x.bestFee(1), 6);
+        }
         // 500 at most
         put(x, "buyer 1 9999;seller 1 0;law middle");
         x.tell();
@@ -928,6 +976,11 @@ public final class TradeHallPromises {
         // 1 of 3, of two GRADES
         due("share", told("buyer 0 4;seller 0 2;buyer 1 5 3;seller 1 4 5").share(),
                 Double.doubleToLongBits(1.0 / 3.0));
+        // 1 of 2, 2 of 2
+        due("share", told("buyer 0 6 5;seller 0 4 5;law less").share(),
+                Double.doubleToLongBits(2.0 / 2.0));
+        due("share", told("buyer 0 6 6;seller 0 5 5;law less").share(),
+                Double.doubleToLongBits(1.0 / 2.0));
         // 1 of 10000
         due("share", told("buyer 0 9999;seller 0 0;buyer 1 5 3;seller 1 4 5").share(),
                 Double.doubleToLongBits(1.0 / 10000.0));
@@ -942,6 +995,7 @@ public final class TradeHallPromises {
         }
         due("audit(6)", x.audit(6), MIN);
         due("audit(-1)", x.audit(-1), MIN);
+        due("audit(3) of one", told("buyer 0").audit(3), 0);
         TradeHall y = told(FAIR + ";buyer 2 50;seller 2 20");
         due("audit(3)", y.audit(3), 0);
         y.close(0);
@@ -963,6 +1017,9 @@ public final class TradeHallPromises {
         due("audit(3)", z.audit(3), 0);
         z.close(0);
         due("audit(3)", z.audit(3), 2);
+        TradeHall second = told("buyer 0 9;seller 0 5;law middle");
+        second.close(0);
+        due("audit(3)", second.audit(3), 1);
     }
 
     private static void dueAudit(TradeHall x, int... want) {
@@ -1181,6 +1238,10 @@ public final class TradeHallPromises {
         due("winner(2, 0)", y.winner(2, 0), 1);
         due("winner(2, 1)", y.winner(2, 1), 2);
         due("winner(2, 2)", y.winner(2, 2), 2);
+        // the buyer gains 1, the seller 0
+        TradeHall z = told("buyer 0 5;seller 0 4;law middle");
+        due("winner(0, 1)", z.winner(0, 1), 1);
+        due("winner(0, 2)", z.winner(0, 2), 1);
     }
 
     private static void demand() {
@@ -1215,6 +1276,10 @@ public final class TradeHallPromises {
         due("lively(1, 0)", x.lively(1, 0), 0);
         due("lively(1, 1)", x.lively(1, 1), 10499);
         due("lively(1, 2)", x.lively(1, 2), 0);
+        TradeHall dropped = told("buyer 0 9;seller 0 5");
+        due("lively(0, 0)", dropped.lively(0, 0), 5);
+        due("lively(0, 1)", dropped.lively(0, 1), 9);
+        due("lively(0, 2)", dropped.lively(0, 2), 1);
         due("lively(0, 3)", x.lively(0, 3), -1);
         due("lively(0, -1)", x.lively(0, -1), -1);
         due("lively(4, 0)", x.lively(4, 0), -1);
@@ -1244,6 +1309,15 @@ public final class TradeHallPromises {
         due("pact(0, 1, 0)", far.pact(0, 1, 0), 500 - 225);
         due("pact(0, 1, 1)", far.pact(0, 1, 1), -100);
         due("pact(0, 1, 2)", far.pact(0, 1, 2), 50);
+        TradeHall dear = told("buyer 0 600;seller 0 50;seller 0 100;law middle");
+        due("pact(1, 2, 0)", dear.pact(1, 2, 0), 375 - 50);
+        due("pact(1, 2, 1)", dear.pact(1, 2, 1), 100);
+        due("pact(1, 2, 2)", dear.pact(1, 2, 2), 50);
+        // by -1 the price is 3: 10 - 3 and 3 - 4; by 1 it is 4 and the buyer's alone: 10 - 4
+        TradeHall like = told("buyer 0 3;seller 0 4;buyer 0 10;seller 0 5;seller 0 4 5");
+        due("pact(1, 2, 0)", like.pact(1, 2, 0), 6);
+        due("pact(1, 2, 1)", like.pact(1, 2, 1), -1);
+        due("pact(1, 2, 2)", like.pact(1, 2, 2), 6);
     }
 
     private static void moved() {
@@ -1266,6 +1340,9 @@ public final class TradeHallPromises {
         y.come(true, 3);
         y.add(3, 2);
         due("moved(0, 0) of like ones", y.moved(0, 0), 3);
+        TradeHall z = told("buyer 0 5;seller 0 4;buyer 1 6;law middle");
+        due("moved(1, 0)", z.moved(1, 0), 1);
+        due("moved(1, 1)", z.moved(1, 1), 1);
     }
 
     private static void ranked() {
