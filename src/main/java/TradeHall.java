@@ -1543,11 +1543,13 @@ public final class TradeHall {
             if (law != APART) {
                 return done == 0 ? 0 : done * (buyerPays - sellerHas);
             }
-            int sum = 0;
+            // All that is paid goes to traders and hall: WORTH and FEES are all GAINS and the
+            // TAKINGS, and by APART each trader gains what the WORTH would be less without it.
+            int left = worth + done * fee;
             for (int trader = 0; trader < MAX_TRADERS; trader++) {
-                sum += moneyOf(false, trader) - moneyOf(true, trader);
+                left -= worth - worthWithout(trader);
             }
-            return sum;
+            return left;
         }
 
         /** By what it says in the hall, whatever it says in this book. */

@@ -2,10 +2,7 @@
  * For each promise of the document answers that were worked out by hand: ordinary inputs, the
  * edges that the document names, and wrong inputs.
  */
-public final class TradeHallPromises {
-    private static final int MIN = Integer.MIN_VALUE;
-    private static final int MAX = Integer.MAX_VALUE;
-
+public final class TradeHallPromises extends Checks {
     /**
      * BIDS 90 70 (of 0) 60 20 (of 1), ASKS 10 40 (of 2) 55 80 (of 3): three TRADES, WORTH 115.
      * By CUT the middle of 20 and 80 is below the LAST ASK, so it does as LESS.
@@ -13,18 +10,12 @@ public final class TradeHallPromises {
     private static final String FAIR =
             "buyer 0 90 70;buyer 0 60 20;seller 0 10 40;seller 0 55 80";
 
-    private static int wrong = 0;
-    private static int promise = 0;
-
     public static void main(String[] args) {
         actsAndState();
         bookAnswers();
         whatIfAnswers();
         rankAnswers();
-        System.out.println(wrong == 0 ? "all promises hold" : wrong + " answers are not as due");
-        if (wrong != 0) {
-            System.exit(1);
-        }
+        finish();
     }
 
     private static void actsAndState() {
@@ -86,64 +77,6 @@ public final class TradeHallPromises {
         ranked();
         skim();
         count();
-    }
-
-    // ---- what the tests share ----
-
-    private static void due(String call, long got, long want) {
-        if (got != want) {
-            wrong++;
-            System.out.println("promise " + promise + ": " + call + " answered " + got
-                    + ", due is " + want);
-        }
-    }
-
-    private static void put(TradeHall x, String text) {
-        int before = x.count(5);
-        for (int i = 0; i < text.length(); i += 20) {
-            int[] five = new int[5];
-            for (int j = 0; j < 20; j++) {
-                int c = i + j < text.length() ? text.charAt(i + j) : 255;
-                five[j / 4] = five[j / 4] << 8 | c;
-            }
-            x.feed(five[0], five[1], five[2], five[3], five[4]);
-        }
-        x.end(before + text.length());
-    }
-
-    private static TradeHall told(String text) {
-        TradeHall x = new TradeHall();
-        put(x, text);
-        int answer = x.tell();
-        if (answer < 0) {
-            due("tell of " + text, answer, 0);
-        }
-        return x;
-    }
-
-    private static String text(TradeHall x) {
-        StringBuilder text = new StringBuilder();
-        for (int k = 0; k < x.letter(-1); k++) {
-            text.append((char) x.letter(k));
-        }
-        return text.toString();
-    }
-
-    private static void dueText(String call, TradeHall x, String want) {
-        String got = text(x);
-        if (!got.equals(want)) {
-            wrong++;
-            System.out.println("promise " + promise + ": " + call + " left '" + got
-                    + "', due is '" + want + "'");
-        }
-    }
-
-    private static void dueFault(String text, int place, int kind) {
-        TradeHall x = told("buyer 1 5");
-        put(x, text);
-        due("tell of '" + text + "'", x.tell(), -2 - (8 * place + kind));
-        due("bytes after the fault", x.count(5), 0);
-        dueText("a fault", x, "buyer 1 5");
     }
 
     // ---- 1 to 14 ----
