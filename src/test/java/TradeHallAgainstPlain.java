@@ -1206,7 +1206,9 @@ public final class TradeHallAgainstPlain {
         }
 
         private int value() {
-            return spread == 10000 ? next(10000) : (number % 2 == 0 ? 0 : 3000) + next(spread);
+            // near 0, in between, near 9999
+            int least = number % 3 == 0 ? 0 : number % 3 == 1 ? 3000 : 9999;
+            return Math.min(least, 10000 - spread) + next(spread);
         }
 
         private int who() {
